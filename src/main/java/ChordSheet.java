@@ -657,11 +657,9 @@ public final class ChordSheet {
 
         /** The code of a character of the lyrics, or -1 where there is none. */
         int letterAt(int line, int column) {
-            if (column < 0 || column >= lengthOf(line)) {
-                return -1;
-            }
             int at = startOf(line) + column;
-            return at >= 0 && at < letters.length ? letters[at] : -1;
+            boolean there = column >= 0 && at < startOf(line + 1);
+            return there && at >= 0 && at < letters.length ? letters[at] : -1;
         }
 
         void addLetter(char letter) {

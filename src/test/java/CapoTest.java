@@ -103,6 +103,8 @@ public final class CapoTest {
         best("[Bm][F#m][Bm][F#m]", 2);
         // 6 at fret 1 (A#m, G7), 7 at fret 2 (Am, F#7), 9 at frets 0 and 4.
         best("[Bm][G#7]", 1);
+        // F#, Em and C7 at fret 7: 6 + 6 + 7. At fret 0 it is 4 + 4 + 1 + 1, twice.
+        best("[C#][Bm][G7][C#][Bm][G7]", 7);
         best(Checks.repeated("[Bm]", 4), 2);
         best(Checks.repeated("[Em][A]", 3), 0);
     }

@@ -17,6 +17,7 @@ public final class SheetTest {
         removeChord();
         moveChord();
         commonTones();
+        commonTonesOfAllChords();
         degree();
         degreesOfAllPitches();
         CHECKS.end("SheetTest");
@@ -214,6 +215,9 @@ public final class SheetTest {
         ChordSheet full = Checks.sheet(Checks.repeated("[C]", 39) + "[D]");
         CHECKS.due("remove of forty", 39, full.removeChord(0));
         CHECKS.due("the last of forty", "D", Checks.name(full, 38));
+        CHECKS.due("remove among many", 38, full.removeChord(20));
+        CHECKS.due("the last of many", "D", Checks.name(full, 37));
+        CHECKS.due("the one before it", "C", Checks.name(full, 36));
     }
 
     private static void moveChord() {
@@ -276,6 +280,27 @@ public final class SheetTest {
         ChordSheet none = new ChordSheet();
         CHECKS.refused("common tones of none", Checks.INDEX, none, () -> none.commonTones(0));
         CHECKS.refused("common tones of -1", Checks.INDEX, none, () -> none.commonTones(-1));
+    }
+
+    private static void commonTonesOfAllChords() {
+        String[] qualities = {"", "m", "7", "m7", "maj7", "dim", "aug", "sus4", "6", "9"};
+        String[] tones = {"0 4 7", "0 3 7", "0 4 7 10", "0 3 7 10", "0 4 7 11", "0 3 6", "0 4 8",
+            "0 5 7", "0 4 7 9", "0 2 4 7 10"};
+        String[] roots = {"C", "C#", "D", "Eb", "E", "F", "Gb", "G", "Ab", "A", "A#", "B"};
+        for (int first = 0; first < 120; first++) {
+            for (int second = 0; second < 120; second++) {
+                int due = 0;
+                for (String tone : tones[first / 12].split(" ")) {
+                    int sought = Integer.parseInt(tone) + first % 12;
+                    for (String other : tones[second / 12].split(" ")) {
+                        int found = Integer.parseInt(other) + second % 12;
+                        due += (sought - found) % 12 == 0 ? 1 : 0;
+                    }
+                }
+                common(roots[first % 12] + qualities[first / 12],
+                        roots[second % 12] + qualities[second / 12], due);
+            }
+        }
     }
 
     private static void degree() {

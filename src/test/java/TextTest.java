@@ -10,6 +10,7 @@ public final class TextTest {
         readWrongTexts();
         readWrongChords();
         readLimits();
+        readAgain();
         readKeepsWhatIsNotItsOwn();
         settings();
         CHECKS.end("TextTest");
@@ -149,10 +150,33 @@ public final class TextTest {
         ChordSheet slashes = Checks.sheet(Checks.repeated("/", 200));
         CHECKS.due("lines of 200 slashes", 201, slashes.lines());
         CHECKS.due("the last of 201 lines", 0, slashes.lyrics(200));
+        ChordSheet last = Checks.sheet(Checks.repeated("/", 199) + "z");
+        CHECKS.due("the letter of the last of 200 lines", 'z', last.lyric(199, 0));
         ChordSheet letters = Checks.sheet(Checks.repeated("x", 200));
         CHECKS.due("200 letters", 200, letters.lyrics(0));
         wrong(Checks.repeated("x", 199) + "[", 200);
         wrong(Checks.repeated("x", 199) + "]", 199);
+    }
+
+    /** Nothing of an earlier sheet may be left in a later one. */
+    private static void readAgain() {
+        ChordSheet sheet = Checks.sheet("[C]abc/[D]de/f[E]");
+        Checks.readAnswer(sheet, "[G]xy/z");
+        CHECKS.due("lines of the later one", 2, sheet.lines());
+        CHECKS.due("line 0 of the later one", "xy", Checks.lyricsOf(sheet, 0));
+        CHECKS.due("line 1 of the later one", "z", Checks.lyricsOf(sheet, 1));
+        CHECKS.due("chords of the later one", "0:0:G", Checks.places(sheet));
+        CHECKS.due("the later one", Checks.sheet("[G]xy/z").fingerprint(), sheet.fingerprint());
+        CHECKS.due("a wrong text", -4, Checks.readAnswer(sheet, "a/b]"));
+        Checks.readAnswer(sheet, "w");
+        CHECKS.due("the last one", Checks.sheet("w").fingerprint(), sheet.fingerprint());
+        CHECKS.refused("an earlier line", Checks.INDEX, sheet, () -> sheet.lyrics(1));
+        CHECKS.refused("an earlier letter", Checks.INDEX, sheet, () -> sheet.lyric(1, 0));
+        CHECKS.refused("an earlier chord", Checks.INDEX, sheet, () -> sheet.rootOf(0));
+        CHECKS.refused("an earlier pair", Checks.INDEX, sheet, () -> sheet.pairs(1));
+        CHECKS.refused("an earlier row", Checks.INDEX, sheet, () -> sheet.rowLength(1, 0, 0));
+        Checks.typed(sheet, "C");
+        CHECKS.refused("add to an earlier line", Checks.INDEX, sheet, () -> sheet.addChord(1, 0));
     }
 
     private static void readKeepsWhatIsNotItsOwn() {

@@ -143,15 +143,9 @@ public final class HistoryTest {
         CHECKS.due("lyrics", hash(3, 2, 'a', 'b', 0, 1, '~', 0, 0),
                 Checks.sheet("ab//~").fingerprint());
         CHECKS.due("chords", hash(2, 1, 'a', 1, 'b', 0, 1, 3, 1, 100, 1, 0, -2, 0, 2, 3, 1),
-                keyed("a[Am]/[Bb/D]b", 3, true).fingerprint());
-        CHECKS.due("a flat key", hash(1, 0, -6, 0), keyed("", -6, false).fingerprint());
-        CHECKS.due("a minor key", hash(1, 0, -3, 1), keyed("", -3, true).fingerprint());
-    }
-
-    private static ChordSheet keyed(String text, int place, boolean minor) {
-        ChordSheet sheet = Checks.sheet(text);
-        sheet.setKey(place, minor);
-        return sheet;
+                Checks.keyed("a[Am]/[Bb/D]b", 3, true).fingerprint());
+        CHECKS.due("a flat key", hash(1, 0, -6, 0), Checks.keyed("", -6, false).fingerprint());
+        CHECKS.due("a minor key", hash(1, 0, -3, 1), Checks.keyed("", -3, true).fingerprint());
     }
 
     private static void fingerprintOfEachPart() {
@@ -160,8 +154,8 @@ public final class HistoryTest {
         for (int n = 0; n < texts.length; n++) {
             for (int m = 0; m < n; m++) {
                 CHECKS.due(texts[n] + " and " + texts[m] + " differ", false,
-                        keyed(texts[n], 0, false).fingerprint()
-                        == keyed(texts[m], 0, false).fingerprint());
+                        Checks.keyed(texts[n], 0, false).fingerprint()
+                        == Checks.keyed(texts[m], 0, false).fingerprint());
             }
         }
     }

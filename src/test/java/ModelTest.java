@@ -261,17 +261,9 @@ public final class ModelTest {
         same("bestCapo", model::bestCapo, sheet::bestCapo);
     }
 
-    private static String answer(Checks.Call call) {
-        try {
-            return String.valueOf(call.answer());
-        } catch (RuntimeException e) {
-            return "throws." + e.getClass().getSimpleName();
-        }
-    }
-
     private void same(String what, Checks.Call due, Checks.Call got) {
-        String want = answer(due);
-        String have = answer(got);
+        String want = Checks.answer(due);
+        String have = Checks.answer(got);
         calls++;
         if (wrong == 0) {
             log.append(what).append(" -> ").append(have).append('\n');

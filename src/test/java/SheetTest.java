@@ -66,15 +66,14 @@ public final class SheetTest {
     }
 
     private static void notes() {
-        String[] roots = {"Fb", "Cb", "Gb", "Db", "Ab", "Eb", "Bb", "F", "C", "G", "D", "A", "E",
-            "B", "F#", "C#", "G#", "D#", "A#", "E#", "B#"};
-        for (int n = 0; n < roots.length; n++) {
-            ChordSheet sheet = Checks.sheet("[" + roots[n] + "][C/" + roots[n] + "]");
-            CHECKS.due("root " + roots[n], n - 8, sheet.rootOf(0));
-            CHECKS.due("bass " + roots[n], n - 8, sheet.bassOf(1));
+        for (int place = -8; place <= 12; place++) {
+            String note = Checks.note(place);
+            ChordSheet sheet = Checks.sheet("[" + note + "][C/" + note + "]");
+            CHECKS.due("root " + note, place, sheet.rootOf(0));
+            CHECKS.due("bass " + note, place, sheet.bassOf(1));
             CHECKS.due("no bass", 100, sheet.bassOf(0));
-            CHECKS.due("name of " + roots[n], roots[n], Checks.name(sheet, 0));
-            CHECKS.due("name with bass " + roots[n], "C/" + roots[n], Checks.name(sheet, 1));
+            CHECKS.due("name of " + note, note, Checks.name(sheet, 0));
+            CHECKS.due("name with bass " + note, "C/" + note, Checks.name(sheet, 1));
         }
         String[] qualities = {"", "m", "7", "m7", "maj7", "dim", "aug", "sus4", "6", "9"};
         for (int q = 0; q < qualities.length; q++) {

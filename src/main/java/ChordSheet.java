@@ -432,23 +432,23 @@ public final class ChordSheet {
             return FIRST_NATURAL + LETTERS.indexOf((char) letter);
         }
 
-        /** Negative for flats. */
-        static int accidentals(int place) {
-            return Math.floorDiv(place - FIRST_NATURAL, SHARP);
-        }
-
         static int spelled(int pitchClass, int signature, boolean simple) {
             int place = placeFrom(signature - 3, pitchClass);
-            boolean hasTwo = Math.abs(accidentals(place)) == 2;
-            return simple && hasTwo ? placeFrom(FIRST_NATURAL, pitchClass) : place;
+            boolean simpler = simple && hasTwoAccidentals(place);
+            return simpler ? placeFrom(FIRST_NATURAL, pitchClass) : place;
         }
 
         static void write(int place, Row row) {
             row.add(LETTERS.charAt(Math.floorMod(place - FIRST_NATURAL, SHARP)));
-            int accidentals = accidentals(place);
+            // Flats count below zero.
+            int accidentals = Math.floorDiv(place - FIRST_NATURAL, SHARP);
             for (int k = 0; k < Math.abs(accidentals); k++) {
                 row.add(accidentals > 0 ? '#' : 'b');
             }
+        }
+
+        private static boolean hasTwoAccidentals(int place) {
+            return place < FIRST_NATURAL - SHARP || place >= FIRST_NATURAL + 2 * SHARP;
         }
     }
 

@@ -26,6 +26,9 @@ final class Checks {
     /** Runs the tests of one sentence of the document, which is printed with what is wrong. */
     void sentence(String words, Runnable test) {
         sentence = "\"" + words + "\": ";
+        if (Boolean.getBoolean("sentences")) {
+            System.out.println(sentence);
+        }
         int before = asked;
         String got = answer(() -> {
             test.run();
@@ -202,6 +205,13 @@ final class Checks {
     static ChordSheet keyed(String text, int place, boolean minor) {
         ChordSheet sheet = sheet(text);
         sheet.setKey(place, minor);
+        return sheet;
+    }
+
+    /** One line and one chord, where five lines with four chords were. */
+    static ChordSheet shorter() {
+        ChordSheet sheet = sheet("[C]aa/[D]bb/[E]cc/dddd[F]/ee");
+        readAnswer(sheet, "[G]x");
         return sheet;
     }
 

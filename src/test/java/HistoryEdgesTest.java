@@ -216,12 +216,29 @@ public final class HistoryEdgesTest {
         CHECKS.due("the chords", "0:2:Cm7/G 1:0:D", Checks.places(sheet));
         CHECKS.due("the key", "-3m", Checks.key(sheet));
         CHECKS.due("the signature", -6, sheet.signature());
-        ChordSheet full = Checks.sheet(Checks.repeated("[C]", 40) + Checks.repeated("/", 40));
+        ChordSheet full = Checks.sheet(Checks.repeated("[C]", 39) + "[Em7/D]"
+                + Checks.repeated("a/", 37));
         long before = full.fingerprint();
-        full.read();
-        CHECKS.due("a new line alone", 1, full.lines());
+        Checks.readAnswer(full, Checks.repeated("[F]", 40) + Checks.repeated("/b", 37));
+        CHECKS.due("another key", "-1", Checks.key(full));
         full.undo();
-        CHECKS.due("40 chords and 41 lines", before, full.fingerprint());
+        CHECKS.due("40 chords and 38 lines", before, full.fingerprint());
+        CHECKS.due("the last chord", "Em7/D", Checks.name(full, 39));
+        CHECKS.due("the last line with lyrics", "a", Checks.lyricsOf(full, 36));
+        CHECKS.due("the last line", "", Checks.lyricsOf(full, 37));
+        Checks.readAnswer(full, Checks.repeated("/", 200));
+        Checks.readAnswer(full, Checks.repeated("x", 200));
+        full.undo();
+        CHECKS.due("201 lines", 201, full.lines());
+        CHECKS.due("the last of them", 0, full.lyrics(200));
+        Checks.readAnswer(full, Checks.repeated("a/", 100));
+        Checks.readAnswer(full, Checks.repeated("y", 200));
+        full.undo();
+        CHECKS.due("the last of 100 lines with lyrics", "a", Checks.lyricsOf(full, 99));
+        CHECKS.due("the line behind it", "", Checks.lyricsOf(full, 100));
+        full.undo();
+        full.undo();
+        CHECKS.due("40 chords again", before, full.fingerprint());
         full.undo();
         CHECKS.due("the new sheet", new ChordSheet().fingerprint(), full.fingerprint());
     }

@@ -23,6 +23,8 @@ public final class KeyEdgesTest {
                 KeyEdgesTest::pitchClasses);
         CHECKS.sentence("The twelve notes of a key are those with the places from signature - 3 to"
                 + " signature + 8.", KeyEdgesTest::outermostNotes);
+        CHECKS.sentence("(Each pitch class has just one of them.)",
+                KeyEdgesTest::oneNoteOfEachPitchClass);
         CHECKS.sentence("The scale of a key consists of the notes with the places from"
                 + " signature - 1 to signature + 5.", KeyEdgesTest::outermostOfScale);
         CHECKS.sentence("if simple is on (initially on) and this note has two accidentals, it is"
@@ -131,6 +133,15 @@ public final class KeyEdgesTest {
                 firsts += sheet.degree(0) == 1 ? 1 : 0;
             }
             CHECKS.due("pitch classes of " + place, 1, firsts);
+            for (int tonic = -6; tonic <= 6; tonic++) {
+                boolean same = PITCHES[place + 9] == PITCHES[tonic + 9];
+                CHECKS.due("score of " + place + " on the tonic " + tonic, same,
+                        sheet.score(tonic, false) == 6);
+                Checks.typed(sheet, Checks.note(tonic)).addChord(0, 0);
+                CHECKS.due(place + " and " + tonic + " have all tones in common", same,
+                        sheet.commonTones(0) == 3);
+                sheet.removeChord(1);
+            }
             // Only C, D, E, G and A are easy.
             CHECKS.due("difficulty of " + place, "141414414144".charAt(PITCHES[place + 9]) == '1'
                     ? 1 : 4, sheet.difficulty(0));
@@ -157,6 +168,18 @@ public final class KeyEdgesTest {
             respelled(signature, signature + 7, signature + 7);
             respelled(signature, signature + 8, signature + 8);
             respelled(signature, signature + 9, signature - 3);
+        }
+    }
+
+    private static void oneNoteOfEachPitchClass() {
+        for (int signature = -6; signature <= 6; signature++) {
+            for (int place = signature - 3; place <= signature + 8; place++) {
+                for (int other = place - 12; other <= place + 12; other += 12) {
+                    if (other >= -9 && other <= 14) {
+                        respelled(signature, other, place);
+                    }
+                }
+            }
         }
     }
 
@@ -400,7 +423,6 @@ public final class KeyEdgesTest {
     private static void greatestScore() {
         found("[C]", 0);
         found("[Am]", 103);
-        // A minor has one more than C major.
         found("[C][Am]", 103);
         found("[Am][C]", 0);
         found("[C][C][Am]", 0);
@@ -408,6 +430,12 @@ public final class KeyEdgesTest {
         found("[Bbm]", 98);
         found("[G#m]", 108);
         found("[Db]", -5);
+        // One more than D, than C, than C and D, than A minor, than C minor.
+        found("[Dm][Db]", -5);
+        found("[Cm][B]", 5);
+        found("[C][D]", 102);
+        found("[Am][B]", 105);
+        found("[C][Cm][Fm]", 99);
     }
 
     private static void majorBeforeMinor() {

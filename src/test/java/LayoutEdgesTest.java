@@ -92,8 +92,8 @@ public final class LayoutEdgesTest {
         laidOut("[Bm]", 200, "Bm||");
         laidOut("[Cbmaj7/Ab]", 200, "Cbmaj7/Ab||");
         laidOut("[C9/D]", 200, "C9/D||");
-        CHECKS.due("the longest", "F##maj7/C##||", Checks.rows(Checks.respelled("[Gmaj7/D]", 9, true),
-                0));
+        CHECKS.due("the longest", "F##maj7/C##||",
+                Checks.rows(Checks.respelled("[Gmaj7/D]", 9, true), 0));
     }
 
     private static void accidentals() {
@@ -376,6 +376,7 @@ public final class LayoutEdgesTest {
         Supplier<ChordSheet> many = () -> Checks.sheet(Checks.repeated("/", 200));
         refused(name, new int[] {MIN, -1, 201, 202, MAX}, many, use);
         answered(name, 200, many, use);
+        refused(name, new int[] {1, 2, 3, 4, 5}, Checks::shorter, use);
     }
 
     private static ChordSheet twoPairs() {

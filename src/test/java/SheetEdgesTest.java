@@ -126,6 +126,7 @@ public final class SheetEdgesTest {
                     noChordOf(name + " of 40", use,
                             () -> Checks.sheet(Checks.repeated("[C]", 40)), 40);
                     noChordOf(name + " where two were", use, SheetEdgesTest::withoutChords, 0);
+                    noChordOf(name + " where more were", use, Checks::shorter, 1);
                 });
     }
 
@@ -210,6 +211,10 @@ public final class SheetEdgesTest {
             String last = Checks.answer(() -> Checks.sheet(text).lyrics(lines - 1));
             CHECKS.due("lyrics of the last line", false, last.startsWith("throws."));
         }
+        for (int line : new int[] {1, 2, 3, 4, 5}) {
+            CHECKS.changesNothing("lyrics of line " + line + " which was", NO_INDEX,
+                    Checks::shorter, sheet -> sheet.lyrics(line));
+        }
     }
 
     private static void firstAndLastLyric() {
@@ -237,6 +242,10 @@ public final class SheetEdgesTest {
                 CHECKS.due("lyric " + line + " " + k, NO_INDEX,
                         Checks.answer(() -> sheet.lyric(line, k)));
             }
+        }
+        for (int line : new int[] {1, 2, 3, 4, 5}) {
+            CHECKS.due("lyric of line " + line + " which was", NO_INDEX,
+                    Checks.answer(() -> Checks.shorter().lyric(line, 0)));
         }
         CHECKS.due("lyric of a full line", NO_INDEX, Checks.answer(
                 () -> Checks.sheet(Checks.repeated("x", 200)).lyric(0, 200)));
@@ -295,9 +304,10 @@ public final class SheetEdgesTest {
         for (int k : new int[] {1, 2, 200, 1000, MAX}) {
             CHECKS.due("sign " + k + " of the shortest", -1, shortest.nameChar(0, k));
         }
-        shortest.nameChar(0, 0);
-        CHECKS.due("nothing is left of a longer name", -1,
-                Checks.sheet("[Fmaj7][F]").nameChar(1, 1));
+        ChordSheet both = Checks.sheet("[Gmaj7][F]");
+        CHECKS.due("the end of a long name", '7', both.nameChar(0, 4));
+        CHECKS.due("a short name behind it", 'F', both.nameChar(1, 0));
+        CHECKS.due("nothing is left of the long one", -1, both.nameChar(1, 1));
     }
 
     private static void negativeNameChar() {
@@ -426,6 +436,10 @@ public final class SheetEdgesTest {
                     () -> Checks.typed(Checks.sheet("[C]ab//c"), "D"),
                     sheet -> sheet.addChord(line, 0));
         }
+        for (int line : new int[] {1, 2, 3, 4, 5}) {
+            CHECKS.changesNothing("add to line " + line + " which was", NO_INDEX,
+                    () -> Checks.typed(Checks.shorter(), "D"), sheet -> sheet.addChord(line, 0));
+        }
         int[] lengths = {2, 0, 1};
         for (int line = 0; line < lengths.length; line++) {
             int to = line;
@@ -546,6 +560,28 @@ public final class SheetEdgesTest {
         common("B#", "C", 3);
         common("Fb", "E", 3);
         common("Gaug", "Baug", 3);
+        String[] tones = {"0 4 7", "0 3 7", "0 4 7 10", "0 3 7 10", "0 4 7 11", "0 3 6", "0 4 8",
+            "0 5 7", "0 4 7 9", "0 2 4 7 10"};
+        String[] qualities = {"", "m", "7", "m7", "maj7", "dim", "aug", "sus4", "6", "9"};
+        String[] roots = {"C", "C#", "D", "Eb", "E", "F", "Gb", "G", "Ab", "A", "A#", "B"};
+        for (int quality = 0; quality < 10; quality++) {
+            for (int root = 0; root < 12; root++) {
+                tonesOf(roots, root, qualities[quality], tones[quality]);
+            }
+        }
+    }
+
+    /** Compares a chord with the major chords on all pitch classes. */
+    private static void tonesOf(String[] roots, int root, String quality, String tones) {
+        for (int pitch = 0; pitch < 12; pitch++) {
+            int due = 0;
+            for (String tone : tones.split(" ")) {
+                int place = (root + Integer.parseInt(tone)) % 12;
+                due += place == pitch || place == (pitch + 4) % 12 || place == (pitch + 7) % 12
+                        ? 1 : 0;
+            }
+            common(roots[root] + quality, roots[pitch], due);
+        }
     }
 
     private static void tonesOfBasses() {

@@ -5,6 +5,7 @@ import java.lang.reflect.Method;
 import java.lang.reflect.Modifier;
 import java.nio.file.Files;
 import java.nio.file.Path;
+import java.util.List;
 import java.util.TreeSet;
 import java.util.regex.Matcher;
 import java.util.regex.Pattern;
@@ -12,6 +13,11 @@ import java.util.regex.Pattern;
 /** The public face of the class, and those rules of LANGUAGE.md that a look can tell. */
 public final class RulesTest {
     private static final Checks CHECKS = new Checks();
+    private static final Path SOURCE = Path.of("src/main/java/ChordSheet.java");
+    private static final int MAX_CLASSES = 12;
+    private static final int MAX_FIELDS = 20;
+    private static final int MAX_PARAMETERS = 7;
+    private static final int MAX_LINES = 60;
     private static final String FACE = "int type(int) IllegalArgumentException"
             + " IllegalStateException;int clearText();int read();boolean setSimple(boolean);"
             + "boolean setFlats(boolean);int setWidth(int) IllegalArgumentException;int lines();"
@@ -41,7 +47,15 @@ public final class RulesTest {
     public static void main(String[] args) throws IOException {
         methods();
         otherMembers();
+        sizes(ChordSheet.class);
+        int classes = 1;
+        for (Class<?> inner : ChordSheet.class.getDeclaredClasses()) {
+            sizes(inner);
+            classes++;
+        }
+        CHECKS.due("at most 12 classes", true, classes <= MAX_CLASSES);
         source();
+        methodLengths();
         CHECKS.end("RulesTest");
     }
 
@@ -105,8 +119,40 @@ public final class RulesTest {
         }
     }
 
+    /** Rule 11: the parameters of methods and the fields of a class beside its constants. */
+    private static void sizes(Class<?> type) {
+        int fields = 0;
+        for (Field field : type.getDeclaredFields()) {
+            fields += Modifier.isStatic(field.getModifiers()) ? 0 : 1;
+        }
+        CHECKS.due(type.getName() + " has at most 20 fields", true, fields <= MAX_FIELDS);
+        for (Method method : type.getDeclaredMethods()) {
+            CHECKS.due(type.getName() + "." + method.getName() + " has at most 7 parameters", true,
+                    method.getParameterCount() <= MAX_PARAMETERS);
+        }
+    }
+
+    /** Rule 11 once more: a method begins with a "{" and ends with a "}" as deep as itself. */
+    private static void methodLengths() throws IOException {
+        int longest = 0;
+        int begin = 0;
+        String end = "";
+        List<String> lines = Files.readAllLines(SOURCE);
+        for (int n = 0; n < lines.size(); n++) {
+            String line = lines.get(n);
+            if (line.matches(" +([a-zA-Z\\[\\]]+ )+[a-zA-Z]+\\(.*") && !line.contains(";")) {
+                begin = n;
+                end = line.substring(0, line.indexOf(line.strip())) + "}";
+            } else if (line.equals(end)) {
+                longest = Math.max(longest, n - begin + 1);
+            }
+        }
+        CHECKS.due("there are methods", true, longest > 1);
+        CHECKS.due("at most 60 lines a method", true, longest <= MAX_LINES);
+    }
+
     private static void source() throws IOException {
-        String source = Files.readString(Path.of("src/main/java/ChordSheet.java"));
+        String source = Files.readString(SOURCE);
         String[] refused = {"\\bimport\\b", "\\bpackage\\b", "->", "::", "\\bfinally\\b",
             "\\bcatch\\b", "\\btry\\b", "\\bsynchronized\\b", "\\bassert\\b", "Exact\\(",
             "\\bequals\\(", "\\bhashCode\\b", "\\btoString\\(", "\\bSystem\\.(?!arraycopy)",
